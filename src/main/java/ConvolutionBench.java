@@ -1038,10 +1038,11 @@ public final class ConvolutionBench {
         private double fromBits(long bits) {
             int exponent = (int) ((bits & INFINITE) >>> 52);
             long fraction = bits & FRACTION;
-            // without the fraction, the greatest exponent grows past all doubles by itself and becomes infinite
-            double size = exponent == 0
-                ? scaled(scaled((double) fraction, -537), -537)
-                : scaled(scaled((double) (fraction | HIDDEN_BIT), (exponent - 1075) / 2), exponent - 1075 - (exponent - 1075) / 2);
+            // a double below the normal ones has the least exponent of these, but no hidden bit
+            double size = exponent == 0 ? (double) fraction : (double) (fraction | HIDDEN_BIT);
+            int power = (exponent == 0 ? 1 : exponent) - 1075;
+            // of the greatest exponent this grows past all doubles by itself and becomes infinite
+            size = scaled(scaled(size, power / 2), power - power / 2);
             return (bits & SIGN) != 0L ? size * -1.0 : size;
         }
 
