@@ -12,6 +12,7 @@ public final class FitsAndDoublesTest {
         realRounding();
         realNotANumber();
         realEdges();
+        longestReals();
         randomReals();
         Check.finish("FitsAndDoublesTest");
     }
@@ -176,6 +177,19 @@ public final class FitsAndDoublesTest {
             Check.due("real", x.real(0, 1), 2);
             Rows.dueReals("2 to the " + exponent, x, power, -power);
         }
+    }
+
+    private static void longestReals() {
+        ConvolutionBench x = Rows.bench();
+        long[] ones = new long[64];
+        java.util.Arrays.fill(ones, 1);
+        Rows.fill(x, 0, Rows.INTS, ones);
+        Check.due("real", x.real(0, 0), 127);
+        double[] want = new double[127];
+        for (int k = 0; k < 127; k++) {
+            want[k] = Math.min(k + 1, 127 - k);
+        }
+        Rows.dueReals("longest", x, want);
     }
 
     private static void randomReals() {

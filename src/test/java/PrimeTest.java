@@ -14,6 +14,7 @@ public final class PrimeTest {
         series();
         divide();
         divideRefusals();
+        nothingIsLeftOver();
         evaluate();
         interpolate();
         interpolateRefusals();
@@ -141,6 +142,28 @@ public final class PrimeTest {
         Check.due("RESIDUES as they were", x.told(3), 2);
         Check.due("RESTS as they were", x.told(4), 1);
         Check.due("over another PRIME it is not 0", x.divide(0, 2, 1), 2);
+    }
+
+    /** A short ROW behind a long one: what the long one left in working rows must not be seen. */
+    private static void nothingIsLeftOver() {
+        ConvolutionBench x = Rows.bench();
+        long[] nines = new long[64];
+        java.util.Arrays.fill(nines, 9);
+        Rows.fill(x, 0, Rows.BYTES, nines);
+        Rows.fill(x, 1, Rows.BYTES, 1, 1);
+        Rows.fill(x, 2, Rows.BYTES, 0, 0, 0, 0, 1);
+        Check.due("evaluate", x.evaluate(0, 1, 0), 2);
+        Check.due("series", x.series(1, 0, 5), 5);
+        Rows.dueResidues("series", x, 1, P0 - 1, 1, P0 - 1, 1);
+        Check.due("evaluate", x.evaluate(0, 1, 0), 2);
+        Check.due("divide", x.divide(1, 2, 0), 0);
+        Rows.dueRests("divide", x, 1, 1, 0, 0);
+        Check.due("evaluate", x.evaluate(0, 1, 0), 2);
+        Check.due("power", x.power(1, 0, 2, 5), 5);
+        Rows.dueResidues("power", x, 1, 2, 1, 0, 0);
+        Check.due("multiply", x.multiply(0, 0, 2), 127);
+        Check.due("multiply", x.multiply(1, 1, 2), 3);
+        Rows.dueProduct("multiply", x, 1, 2, 1);
     }
 
     private static void evaluate() {

@@ -13,6 +13,7 @@ public final class ProductsTest {
         multiply();
         multiplyRefusals();
         onePrimeEdge();
+        longestProducts();
         greatestProducts();
         randomProducts();
         circular();
@@ -100,6 +101,24 @@ public final class ProductsTest {
         java.util.Arrays.fill(all, MIN);
         Rows.fill(x, 6, Rows.INTS, all);
         Check.due("the greatest", x.multiply(6, 6, 1), STATE);
+    }
+
+    private static void longestProducts() {
+        long[] a = new long[64];
+        long[] b = new long[64];
+        for (int i = 0; i < 64; i++) {
+            a[i] = i % 2 == 0 ? i : -i;
+            b[i] = 100 - i;
+        }
+        BigInteger[] want = product(a, b);
+        for (int way = 0; way < 3; way++) {
+            ConvolutionBench x = benchWith(a, b);
+            Check.due("multiply", x.multiply(0, 1, way), 127);
+            dueWides("longest by " + way, x, want);
+        }
+        ConvolutionBench x = benchWith(a, b);
+        Check.due("correlate", x.correlate(0, 1), 127);
+        dueWides("longest correlate", x, product(a, turned(b)));
     }
 
     private static void greatestProducts() {
@@ -268,7 +287,10 @@ public final class ProductsTest {
         Check.due("carry of 0", x.carry(0, 2), 1);
         Rows.dueRow("one digit at least", x, 0, 0);
         Check.due("multiply", x.multiply(3, 1, 0), 2);
-        Check.due("carry, one below 0", x.carry(0, 10), STATE);
+        Check.due("carry, the last one below 0", x.carry(0, 10), STATE);
+        Check.due("reverse", x.reverse(3), 1);
+        Check.due("multiply", x.multiply(3, 1, 0), 2);
+        Check.due("carry, the first one below 0", x.carry(0, 10), STATE);
         Check.due("OUTSIDE ahead of STATE", x.carry(0, 1), OUTSIDE);
         Rows.dueRow("as it was", x, 0, 0);
     }

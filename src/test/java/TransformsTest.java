@@ -107,6 +107,8 @@ public final class TransformsTest {
             Rows.dueRow("a product around", x, 5, 15, 30, 41, 24);
         }
         Rows.dueRefusal("times, another count", x, x.times(2), STATE);
+        Rows.fill(x, 6, Rows.LONGS, 1, 0, 0, 0);
+        Check.due("times of LONGS", x.times(6), 4);
         Check.due("value(0) is as it was", x.value(0), 110);
     }
 
