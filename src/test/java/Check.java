@@ -2,15 +2,21 @@
 final class Check {
     private static int looked = 0;
     private static int wrong = 0;
+    private static String about = "";
 
     private Check() {
+    }
+
+    /** What is looked at from here on belongs to this; "" for nothing in particular. */
+    static void about(String what) {
+        about = what.isEmpty() ? "" : what + ": ";
     }
 
     static void due(String call, long got, long want) {
         looked++;
         if (got != want) {
             wrong++;
-            System.out.println(call + " answered " + got + ", due is " + want);
+            System.out.println(about + call + " answered " + got + ", due is " + want);
         }
     }
 
@@ -20,6 +26,10 @@ final class Check {
 
     static boolean anyWrong() {
         return wrong != 0;
+    }
+
+    static int wrong() {
+        return wrong;
     }
 
     static void finish(String test) {
